@@ -257,14 +257,12 @@ public final class SlipHouse {
     public int flaw(int i) {
         witnesses.gather();
         int seen = 0;
-        for (int under = 0; under < MOST_SENSES; under++) {
-            for (int over = 0; over < MOST_SENSES; over++) {
-                if (witnesses.isFlaw(under, over)) {
-                    if (seen == i) {
-                        return FLAW_UNIT * under + over;
-                    }
-                    seen++;
+        for (int pair = 0; pair < FLAW_UNIT * MOST_SENSES; pair++) {
+            if (witnesses.isFlaw(pair / FLAW_UNIT, pair % FLAW_UNIT)) {
+                if (seen == i) {
+                    return pair;
                 }
+                seen++;
             }
         }
         return NONE;
@@ -363,9 +361,12 @@ public final class SlipHouse {
 
     private boolean isFit(int s, int e) {
         int b = slips.book[s];
-        for (int f = Entries.formOf(e, 0); f < Entries.formOf(e, entries.formsOf[e]); f++) {
-            boolean haveYear = entries.from[f] <= books.last[b] && books.first[b] <= entries.to[f];
-            if (haveYear && entries.forms.meet(f, slips.words, s)) {
+        if (!books.has(b)) {
+            return false;
+        }
+        for (int i = 0; i < entries.formsOf[e]; i++) {
+            int f = Entries.formOf(e, i);
+            if (entries.isSpelledIn(f, books.first[b], books.last[b]) && entries.forms.meet(f, slips.words, s)) {
                 return true;
             }
         }
@@ -418,11 +419,9 @@ public final class SlipHouse {
     private int flaws() {
         witnesses.gather();
         int flaws = 0;
-        for (int under = 0; under < MOST_SENSES; under++) {
-            for (int over = 0; over < MOST_SENSES; over++) {
-                if (witnesses.isFlaw(under, over)) {
-                    flaws++;
-                }
+        for (int pair = 0; pair < FLAW_UNIT * MOST_SENSES; pair++) {
+            if (witnesses.isFlaw(pair / FLAW_UNIT, pair % FLAW_UNIT)) {
+                flaws++;
             }
         }
         return flaws;
@@ -759,7 +758,7 @@ public final class SlipHouse {
             return 'a' - 1 + (int) ((word >>> (LETTER_BITS * behind)) & LETTER_MASK);
         }
 
-        /** The word with the old letters changed for fresh ones, with `at` letters behind them; NO_WORD if that is none. */
+        /** The word with the old letters, that have `at` letters behind them, changed for fresh ones; or NO_WORD. */
         private static long changed(long word, int at, long old, long fresh) {
             int freshBits = LETTER_BITS * lettersIn(fresh);
             int oldBits = LETTER_BITS * lettersIn(old);
@@ -822,6 +821,11 @@ public final class SlipHouse {
             to[f] = lastYear;
             formsOf[e]++;
             return formsOf[e];
+        }
+
+        /** Whether form f was a spelling in one of the years from the first to the last at least. */
+        boolean isSpelledIn(int f, int first, int last) {
+            return f >= 0 && f < from.length && from[f] <= last && first <= to[f];
         }
 
         long head(int e) {
@@ -991,7 +995,7 @@ public final class SlipHouse {
         }
     }
 
-    /** What the slips tell of each sense. It is gathered for each call that asks: slips, senses and spans may have changed. */
+    /** What the slips tell of each sense, gathered for each call that asks: slips, senses, spans may have changed. */
     private static final class Witnesses {
         private final Books books;
         private final Slips slips;
@@ -1228,7 +1232,7 @@ public final class SlipHouse {
             return NONE;
         }
 
-        /** The sense that is printed behind t: the first one under it, or the next one beside it or what it is under. */
+        /** The sense printed behind t: the first one under it, or the next one beside it or beside what it is under. */
         private int senseBehind(int t) {
             int e = senses.entry[t];
             int next = senseAt(e, t, 1);
@@ -1245,7 +1249,7 @@ public final class SlipHouse {
             addMark(t);
             addWitnesses(t);
             for (int p = 0; p < pointers.size; p++) {
-                if (pointers.from[p] == t && !pointers.isLoose(p)) {
+                if (pointers.from[p] == t && senses.has(pointers.to[p])) {
                     addPointer(pointers.to[p]);
                 }
             }

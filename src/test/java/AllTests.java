@@ -4,10 +4,12 @@ public final class AllTests {
     }
 
     public static void main(String[] args) {
+        LanguageTests.run();
         BookTests.run();
         WordTests.run();
         SenseTests.run();
         KeepingTests.run();
+        ModelTests.run();
         System.out.println(Check.right() + " answers as due, " + Check.wrong() + " not as due");
         if (Check.wrong() != 0 || Check.right() == 0) {
             System.exit(1);

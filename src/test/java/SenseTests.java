@@ -18,6 +18,7 @@ final class SenseTests {
         toldWitnesses();
         toldGap();
         toldOrder();
+        orderAtTheLastYear();
         toldNone();
         olderByYears();
         olderByBefores();
@@ -27,7 +28,10 @@ final class SenseTests {
         deepTree();
     }
 
-    /** Two entries; books 0 to 3 of 1500-1510, 1505-1520, 1600, 1550-1560; senses 0, 1 and 2 under 0, 3, 4 under 2; 5 of entry 1. */
+    /**
+     * Books 0 to 3 of 1500-1510, 1505-1520, 1600, 1550-1560; senses 0 and 3 of entry 0, 1 and 2 under 0, 4 under 2;
+     * sense 5 of entry 1; slip 0 of book 1 in sense 1, slip 1 of book 0 in the heap.
+     */
     private static SlipHouse tree() {
         SlipHouse house = new SlipHouse();
         make(house);
@@ -258,14 +262,13 @@ final class SenseTests {
         Check.due("1521 to 1599", house.told(3, 8), 79);
         Houses.slipIn(house, 3, 0, 3);
         Check.due("1561 to 1599", house.told(3, 8), 39);
-        house.book(1511, 1511);
         house.book(1523, 1549);
         house.book(1490, 1590);
         house.put(2, NONE, NONE);
-        int last = Houses.slipIn(house, 6, 0, 3);
+        int last = Houses.slipIn(house, 5, 0, 3);
         Check.due("a long span has them all", house.told(3, 8), 9);
         house.put(last, NONE, NONE);
-        Houses.slipIn(house, 5, 0, 3);
+        Houses.slipIn(house, 4, 0, 3);
         Check.due("1561 to 1599 again", house.told(3, 8), 39);
     }
 
@@ -286,6 +289,16 @@ final class SenseTests {
         places(house, new int[] {3, 2, 1, 4, 1, 1, 1, 2});
         Houses.slipIn(house, 4, 0, 4);
         places(house, new int[] {1, 2, 1, 4, 1, 1, 2, 3});
+    }
+
+    private static void orderAtTheLastYear() {
+        SlipHouse house = new SlipHouse();
+        house.book(2000, 2000);
+        Houses.entry(house, "a", 1, 2);
+        house.sense(0, NONE);
+        house.sense(0, NONE);
+        Houses.slipIn(house, 0, 0, 1);
+        places(house, new int[] {2, 1});
     }
 
     private static void places(SlipHouse house, int[] places) {
@@ -318,8 +331,6 @@ final class SenseTests {
         Check.due("of two entries", house.older(5, 1), 2);
         Check.due("no such sense", house.older(0, 6), NONE);
         Check.due("sense -1", house.older(-1, 0), NONE);
-        house.book(1511, 1511);
-        house.book(1510, 1510);
         SlipHouse edge = new SlipHouse();
         edge.book(10, 20);
         edge.book(20, 30);
