@@ -1026,11 +1026,15 @@ public final class SlipHouse {
                 addSlip(slips.sense[s], 1 << slips.book[s]);
             }
             for (int t = 0; t < MOST_SENSES; t++) {
-                firstFrom[t] = books.least(books.first, allBooks[t]);
-                firstTo[t] = books.least(books.last, allBooks[t]);
+                if (senses.has(t)) {
+                    firstFrom[t] = books.least(books.first, allBooks[t]);
+                    firstTo[t] = books.least(books.last, allBooks[t]);
+                }
             }
             for (int t = 0; t < MOST_SENSES; t++) {
-                place[t] = placeOf(t);
+                if (senses.has(t)) {
+                    place[t] = placeOf(t);
+                }
             }
         }
 
@@ -1070,8 +1074,12 @@ public final class SlipHouse {
         }
 
         boolean isFlaw(int under, int over) {
-            return under != over && senses.isWithin(under, over) && own[under] > 0 && own[over] > 0
+            return under != over && hasOwn(under) && hasOwn(over) && senses.isWithin(under, over)
                 && books.areSurelyOlder(ownBooks[under], ownBooks[over]);
+        }
+
+        private boolean hasOwn(int t) {
+            return senses.has(t) && own[t] > 0;
         }
     }
 
