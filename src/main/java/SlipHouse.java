@@ -741,9 +741,10 @@ public final class SlipHouse {
             return (word << LETTER_BITS) | (letter - 'a' + 1);
         }
 
+        /** How many letters a word has; of what is longer than a word, one more than a word can have. */
         static int lettersIn(long word) {
             int letters = 0;
-            for (long rest = word; rest != 0; rest >>>= LETTER_BITS) {
+            while (letters <= MOST_LETTERS && word >>> (LETTER_BITS * letters) != 0) {
                 letters++;
             }
             return letters;

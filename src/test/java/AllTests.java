@@ -9,7 +9,15 @@ public final class AllTests {
         WordTests.run();
         SenseTests.run();
         KeepingTests.run();
+        BookEdges.run();
+        WordEdges.run();
+        FitEdges.run();
+        SenseEdges.run();
+        ToldEdges.run();
+        KeepingEdges.run();
+        PrintEdges.run();
         ModelTests.run();
+        ThrowTests.run();
         System.out.println(Check.right() + " answers as due, " + Check.wrong() + " not as due");
         if (Check.wrong() != 0 || Check.right() == 0) {
             System.exit(1);

@@ -5,9 +5,22 @@ final class Houses {
     /** Calls that change a house (or are refused). */
     interface Calls {
         void on(SlipHouse house);
+
+        default Calls then(Calls more) {
+            return house -> {
+                on(house);
+                more.on(house);
+            };
+        }
     }
 
     private Houses() {
+    }
+
+    static SlipHouse made(Calls making) {
+        SlipHouse house = new SlipHouse();
+        making.on(house);
+        return house;
     }
 
     /** Feeds letters, with zero bytes behind them up to twenty. */
@@ -46,6 +59,35 @@ final class Houses {
         return s;
     }
 
+    static void books(SlipHouse house, int books, int from, int to) {
+        for (int b = 0; b < books; b++) {
+            house.book(from, to);
+        }
+    }
+
+    static void slips(SlipHouse house, int slips, int book, String word) {
+        for (int s = 0; s < slips; s++) {
+            slip(house, book, word);
+        }
+    }
+
+    static void senses(SlipHouse house, int senses, int e, int under) {
+        for (int t = 0; t < senses; t++) {
+            house.sense(e, under);
+        }
+    }
+
+    /** Empties the tape by a call that takes letters from it, whichever has room. */
+    static void emptyTape(SlipHouse house) {
+        house.entry(1, 1, 1);
+        if (house.count(12) > 0) {
+            house.slip(0, 1);
+        }
+        if (house.count(12) > 0) {
+            house.rule(1, 1);
+        }
+    }
+
     static String printed(SlipHouse house, int e) {
         int length = house.print(e);
         StringBuilder text = new StringBuilder();
@@ -53,72 +95,5 @@ final class Houses {
             text.append((char) house.octet(i));
         }
         return text.toString();
-    }
-
-    /** Whether a call on a house so made is refused, and changes nothing but, where told, the tape. */
-    static void refused(String what, Calls making, Calls call, boolean emptiesTape) {
-        SlipHouse untouched = new SlipHouse();
-        making.on(untouched);
-        SlipHouse tried = new SlipHouse();
-        making.on(tried);
-        call.on(tried);
-        int tape = untouched.count(12);
-        Check.due(what + ": bytes of the tape", tried.count(12), emptiesTape ? 0 : tape);
-        Check.due(what + ": what the house answers", readOut(tried), readOut(untouched));
-    }
-
-    /** What a small house answers to calls that only ask; the tape is left out. */
-    static String readOut(SlipHouse house) {
-        StringBuilder text = new StringBuilder();
-        for (int what = 0; what <= 11; what++) {
-            text.append(" count ").append(house.count(what));
-        }
-        readBooks(house, text);
-        readSlips(house, text);
-        readSenses(house, text);
-        readEditions(house, text);
-        readEntries(house, text);
-        return text.toString();
-    }
-
-    private static void readBooks(SlipHouse house, StringBuilder text) {
-        for (int b = 0; b < Math.min(4, house.count(0)); b++) {
-            for (int what = 0; what <= 4; what++) {
-                text.append(" span ").append(house.span(b, what));
-            }
-        }
-    }
-
-    private static void readSlips(SlipHouse house, StringBuilder text) {
-        for (int s = 0; s < Math.min(4, house.count(1)); s++) {
-            for (int what = 0; what <= 4; what++) {
-                text.append(" where ").append(house.where(s, what));
-            }
-        }
-    }
-
-    private static void readSenses(SlipHouse house, StringBuilder text) {
-        for (int t = 0; t < 6; t++) {
-            for (int what = 0; what <= 3; what++) {
-                text.append(" told ").append(house.told(t, what));
-            }
-        }
-    }
-
-    private static void readEditions(SlipHouse house, StringBuilder text) {
-        for (int e = 0; e < Math.min(2, house.count(9)); e++) {
-            for (int s = 0; s < Math.min(3, house.count(1)); s++) {
-                text.append(" as ").append(house.as(e, s, 0)).append(' ').append(house.as(e, s, 1));
-            }
-        }
-    }
-
-    private static void readEntries(SlipHouse house, StringBuilder text) {
-        for (int i = 0; i < 3; i++) {
-            text.append(" octet ").append(house.octet(i));
-        }
-        for (int e = 0; e < Math.min(3, house.count(2)); e++) {
-            text.append(" heap ").append(house.count(20 + e)).append(' ').append(printed(house, e));
-        }
     }
 }

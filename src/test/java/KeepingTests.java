@@ -10,7 +10,6 @@ final class KeepingTests {
         mostPointers();
         leads();
         leadGone();
-        leadRefused();
         editions();
         mostEditions();
         as();
@@ -54,18 +53,6 @@ final class KeepingTests {
         house.print(0);
     }
 
-    private static void refused(String what, Houses.Calls call) {
-        Houses.refused(what, KeepingTests::makeLoose, call, false);
-    }
-
-    private static void refused(int got) {
-        Check.due("a refused call", got, NONE);
-    }
-
-    private static void refused(boolean got) {
-        Check.due("a refused call", got, false);
-    }
-
     private static void points() {
         SlipHouse house = tree();
         Check.due("point(0, 3)", house.point(0, 3), 0);
@@ -74,11 +61,6 @@ final class KeepingTests {
         Check.due("to what is under it", house.point(0, 1), 3);
         Check.due("pointers", house.count(5), 4);
         Check.due("loose ones", house.count(6), 0);
-        refused("point to itself", h -> refused(h.point(1, 1)));
-        refused("point to none", h -> refused(h.point(1, 2)));
-        refused("point to NONE", h -> refused(h.point(1, NONE)));
-        refused("point from none", h -> refused(h.point(2, 1)));
-        refused("point from 40", h -> refused(h.point(40, 1)));
     }
 
     private static void mostPointers() {
@@ -115,17 +97,6 @@ final class KeepingTests {
         Check.due("print of 1", Houses.printed(house, 1), "dog: 1(0)>cat 1");
     }
 
-    private static void leadRefused() {
-        refused("lead a pointer that is not loose", h -> refused(h.lead(0, 1)));
-        refused("let one go that is not loose", h -> refused(h.lead(0, NONE)));
-        refused("lead no pointer", h -> refused(h.lead(3, 1)));
-        refused("lead pointer -1", h -> refused(h.lead(-1, 1)));
-        refused("let no pointer go", h -> refused(h.lead(3, NONE)));
-        refused("lead to no sense", h -> refused(h.lead(1, 2)));
-        refused("lead to sense -2", h -> refused(h.lead(1, -2)));
-        refused("lead to where it leads from", h -> refused(h.lead(1, 0)));
-    }
-
     private static void editions() {
         SlipHouse house = new SlipHouse();
         makeLoose(house);
@@ -134,7 +105,6 @@ final class KeepingTests {
         house.lead(1, 1);
         Check.due("edition 0", house.edition(), 0);
         Check.due("editions then", house.count(9), 1);
-        refused("edition with a loose pointer", h -> refused(h.edition()));
     }
 
     private static void mostEditions() {

@@ -88,6 +88,9 @@ final class LanguageTests {
             Check.due("static: " + type, Modifier.isStatic(type.getModifiers()), true);
             Check.due("hidden: " + type, Modifier.isPublic(type.getModifiers()), false);
             Check.due("some twenty fields: " + type, type.getDeclaredFields().length <= 20, true);
+            for (Method method : type.getDeclaredMethods()) {
+                Check.due("at most seven parameters: " + method, method.getParameterCount() <= 7, true);
+            }
         }
     }
 
@@ -106,5 +109,21 @@ final class LanguageTests {
         }
         Check.due("lambdas", code.contains("->"), false);
         Check.due("method references", code.contains("::"), false);
+        Check.due("signs above 127", code.chars().anyMatch(sign -> sign > 127), false);
+        methodLengths(code.split("\n"));
+    }
+    /** Methods begin and end at an indent of four, those of the classes inside at one of eight. */
+    private static void methodLengths(String[] lines) {
+        Pattern begin = Pattern.compile("^( {4}| {8})[a-z].*\\) \\{$");
+        for (int i = 0; i < lines.length; i++) {
+            Matcher found = begin.matcher(lines[i]);
+            if (found.find()) {
+                int end = i;
+                while (end < lines.length && !lines[end].equals(found.group(1) + "}")) {
+                    end++;
+                }
+                Check.due("some sixty lines: " + lines[i].trim(), end - i <= 60, true);
+            }
+        }
     }
 }

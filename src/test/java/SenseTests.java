@@ -11,7 +11,6 @@ final class SenseTests {
         put();
         move();
         join();
-        joinRefused();
         joinToWhatItIsUnder();
         part();
         drop();
@@ -57,18 +56,6 @@ final class SenseTests {
         house.edition();
     }
 
-    private static void refused(String what, Houses.Calls call) {
-        Houses.refused(what, SenseTests::make, call, false);
-    }
-
-    private static void refused(int got) {
-        Check.due("a refused call", got, NONE);
-    }
-
-    private static void refused(boolean got) {
-        Check.due("a refused call", got, false);
-    }
-
     private static void senses() {
         SlipHouse house = tree();
         Check.due("senses", house.count(4), 6);
@@ -81,11 +68,6 @@ final class SenseTests {
             Check.due("senses under " + t, house.told(t, 10), under[t]);
             Check.due("depth of " + t, house.told(t, 11), depths[t]);
         }
-        refused("sense of no entry", h -> refused(h.sense(2, NONE)));
-        refused("sense of entry -1", h -> refused(h.sense(-1, NONE)));
-        refused("sense under none", h -> refused(h.sense(0, 6)));
-        refused("sense under -2", h -> refused(h.sense(0, -2)));
-        refused("sense under one of another entry", h -> refused(h.sense(0, 5)));
         house.drop(3);
         house.drop(1);
         Check.due("1 has a slip", house.count(4), 5);
@@ -123,15 +105,6 @@ final class SenseTests {
         Check.due("loose", house.put(0, NONE, NONE), true);
         Check.due("loose already", house.put(0, NONE, NONE), false);
         Check.due("its entry at last", house.where(0, 0), NONE);
-        refused("put no slip", h -> refused(h.put(2, 0, 0)));
-        refused("put slip -1", h -> refused(h.put(-1, 0, 0)));
-        refused("put to no entry", h -> refused(h.put(0, 2, NONE)));
-        refused("put to entry -2", h -> refused(h.put(0, -2, NONE)));
-        refused("put to no sense", h -> refused(h.put(0, 0, 6)));
-        refused("put to sense -2", h -> refused(h.put(0, 0, -2)));
-        refused("put to a sense of another entry", h -> refused(h.put(0, 0, 5)));
-        refused("put to a sense of no entry", h -> refused(h.put(0, NONE, 0)));
-        refused("put where it stands", h -> refused(h.put(0, 0, 1)));
     }
 
     private static void move() {
@@ -145,14 +118,6 @@ final class SenseTests {
         Check.due("depth of 1", house.told(1, 11), 4);
         Check.due("2 under 1 would be a ring", house.move(2, 1), false);
         Check.due("senses under 4", house.told(4, 10), 1);
-        refused("move no sense", h -> refused(h.move(6, NONE)));
-        refused("move sense -1", h -> refused(h.move(-1, NONE)));
-        refused("move under none", h -> refused(h.move(1, 6)));
-        refused("move under -2", h -> refused(h.move(1, -2)));
-        refused("move under itself", h -> refused(h.move(1, 1)));
-        refused("move under what is under it", h -> refused(h.move(0, 4)));
-        refused("move where it is", h -> refused(h.move(4, 2)));
-        refused("move to another entry", h -> refused(h.move(1, 5)));
     }
 
     private static void join() {
@@ -172,16 +137,6 @@ final class SenseTests {
         Check.due("the pointer stays loose", house.count(6), 1);
         Check.due("the loose one has number 1", house.lead(0, 1), false);
         Check.due("and leads on", house.lead(1, 1), true);
-    }
-
-    private static void joinRefused() {
-        refused("join no sense", h -> refused(h.join(6, 0)));
-        refused("join into none", h -> refused(h.join(0, 6)));
-        refused("join into NONE", h -> refused(h.join(1, NONE)));
-        refused("join with itself", h -> refused(h.join(1, 1)));
-        refused("join into another entry", h -> refused(h.join(3, 5)));
-        refused("join into what is under it", h -> refused(h.join(0, 1)));
-        refused("join into what is deep under it", h -> refused(h.join(0, 4)));
     }
 
     private static void joinToWhatItIsUnder() {
@@ -208,8 +163,6 @@ final class SenseTests {
         Check.due("0 keeps what is under it", house.told(0, 10), 3);
         Check.due("part 5", house.part(5), 9);
         Check.due("of entry 1", house.told(9, 0), 1);
-        refused("part no sense", h -> refused(h.part(6)));
-        refused("part -1", h -> refused(h.part(-1)));
     }
 
     private static void drop() {
@@ -222,10 +175,6 @@ final class SenseTests {
         Check.due("pointers", house.count(5), 2);
         Check.due("loose ones", house.count(6), 1);
         Check.due("drop 2, under which nothing is now", house.drop(2), true);
-        refused("drop no sense", h -> refused(h.drop(6)));
-        refused("drop -1", h -> refused(h.drop(-1)));
-        refused("drop one with a slip", h -> refused(h.drop(1)));
-        refused("drop one with one under it", h -> refused(h.drop(2)));
     }
 
     private static void toldWitnesses() {

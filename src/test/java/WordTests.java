@@ -7,7 +7,7 @@ final class WordTests {
 
     static void run() {
         slips();
-        slipsRefused();
+        slipsOfOtherSigns();
         mostSlips();
         entries();
         forms();
@@ -31,13 +31,6 @@ final class WordTests {
         return house;
     }
 
-    private static void smallCalls(SlipHouse house) {
-        house.book(1500, 1510);
-        Houses.entry(house, "cat", 1500, 1510);
-        Houses.slip(house, 0, "cat");
-        Houses.feed(house, "aB");
-    }
-
     private static void slips() {
         SlipHouse house = new SlipHouse();
         house.book(1, 2);
@@ -54,25 +47,13 @@ final class WordTests {
         Check.due("of 40 bytes none is left", house.count(12), 0);
     }
 
-    private static void slipsRefused() {
-        Houses.refused("no such book", WordTests::smallCalls, h -> due(h.slip(1, 1)), false);
-        Houses.refused("book -1", WordTests::smallCalls, h -> due(h.slip(-1, 1)), false);
-        Houses.refused("no book and no word", WordTests::smallCalls, h -> due(h.slip(1, 2)), false);
-        Houses.refused("n 0", WordTests::smallCalls, h -> due(h.slip(0, 0)), false);
-        Houses.refused("n 9", WordTests::smallCalls, h -> due(h.slip(0, 9)), false);
-        Houses.refused("n -1", WordTests::smallCalls, h -> due(h.slip(0, -1)), false);
-        Houses.refused("aB is no word", WordTests::smallCalls, h -> due(h.slip(0, 2)), true);
-        Houses.refused("a byte 0 is no letter", WordTests::smallCalls, h -> due(h.slip(0, 3)), true);
+    private static void slipsOfOtherSigns() {
         SlipHouse house = new SlipHouse();
         house.book(1, 1);
         Check.due("the tape has none", house.slip(0, 1), NONE);
         Check.due("a` is no word", Houses.slip(house, 0, "a`"), NONE);
         Check.due("a{ is no word", Houses.slip(house, 0, "a{"), NONE);
         Check.due("az is a word", Houses.slip(house, 0, "az"), 0);
-    }
-
-    private static void due(int got) {
-        Check.due("a refused call", got, NONE);
     }
 
     private static void mostSlips() {
@@ -95,12 +76,6 @@ final class WordTests {
         Check.due("entry 12", Houses.entry(house, "cat", 1, 2000), NONE);
         Check.due("the tape stays", house.count(12), 20);
         Check.due("entries", house.count(2), 12);
-        Houses.refused("years 0 to 4", WordTests::smallCalls, h -> due(h.entry(1, 0, 4)), false);
-        Houses.refused("years 5 to 4", WordTests::smallCalls, h -> due(h.entry(1, 5, 4)), false);
-        Houses.refused("years 5 to 2001", WordTests::smallCalls, h -> due(h.entry(1, 5, 2001)), false);
-        Houses.refused("entry of 0 bytes", WordTests::smallCalls, h -> due(h.entry(0, 1, 2)), false);
-        Houses.refused("entry of 9 bytes", WordTests::smallCalls, h -> due(h.entry(9, 1, 2)), false);
-        Houses.refused("entry aB", WordTests::smallCalls, h -> due(h.entry(2, 1, 2)), true);
         Check.due("an empty tape", new SlipHouse().entry(1, 1, 2), NONE);
     }
 
@@ -112,12 +87,6 @@ final class WordTests {
         Check.due("form 6", Houses.form(house, 0, "b", 1, 2), NONE);
         Check.due("the tape stays", house.count(12), 20);
         Check.due("the head stays", Houses.printed(house, 0), "a:");
-        Houses.refused("form of no entry", WordTests::smallCalls, h -> due(h.form(1, 1, 1, 2)), false);
-        Houses.refused("form of entry -1", WordTests::smallCalls, h -> due(h.form(-1, 1, 1, 2)), false);
-        Houses.refused("form of years 0 to 2", WordTests::smallCalls, h -> due(h.form(0, 1, 0, 2)), false);
-        Houses.refused("form of years 3 to 2", WordTests::smallCalls, h -> due(h.form(0, 1, 3, 2)), false);
-        Houses.refused("form of 9 bytes", WordTests::smallCalls, h -> due(h.form(0, 9, 1, 2)), false);
-        Houses.refused("form aB", WordTests::smallCalls, h -> due(h.form(0, 2, 1, 2)), true);
         Check.due("form of an empty tape", small("a").form(0, 1, 1, 2), NONE);
     }
 
@@ -129,14 +98,6 @@ final class WordTests {
         Check.due("rule 10", Houses.rule(house, "ab", "c"), NONE);
         Check.due("the tape stays", house.count(12), 20);
         Check.due("rules", house.count(3), 10);
-        Houses.refused("rule(0, 1)", WordTests::smallCalls, h -> due(h.rule(0, 1)), false);
-        Houses.refused("rule(1, 0)", WordTests::smallCalls, h -> due(h.rule(1, 0)), false);
-        Houses.refused("rule(3, 1)", WordTests::smallCalls, h -> due(h.rule(3, 1)), false);
-        Houses.refused("rule(1, 3)", WordTests::smallCalls, h -> due(h.rule(1, 3)), false);
-        Houses.refused("rule at the ints' ends", WordTests::smallCalls,
-            h -> due(h.rule(Integer.MAX_VALUE, Integer.MAX_VALUE)), false);
-        Houses.refused("rule a, B", WordTests::smallCalls, h -> due(h.rule(1, 1)), true);
-        Houses.refused("rule aB, 0", WordTests::smallCalls, h -> due(h.rule(2, 1)), true);
         SlipHouse other = new SlipHouse();
         Check.due("an empty tape", other.rule(1, 1), NONE);
         Check.due("ab for ab", Houses.rule(other, "ab", "ab"), NONE);
