@@ -10,12 +10,9 @@ final class BookTests {
         feed();
         feedHighestByteFirst();
         books();
-        mostBooks();
         beforesTighten();
         beforesInAnyOrder();
         beforesRefused();
-        rings();
-        mostBefores();
         spans();
     }
 
@@ -76,22 +73,6 @@ final class BookTests {
         Check.due("books", house.count(0), 3);
     }
 
-    private static void mostBooks() {
-        SlipHouse house = new SlipHouse();
-        for (int b = 0; b < 30; b++) {
-            Check.due("book " + b, house.book(1 + b, 100 + b), b);
-        }
-        Check.due("book 30", house.book(1, 100), NONE);
-        Check.due("books", house.count(0), 30);
-        for (int b = 0; b < 29; b++) {
-            Check.due("before " + b, house.before(b + 1, b), true);
-        }
-        Check.due("last book of a long chain, first year", house.span(0, 0), 30 + 29);
-        Check.due("first book of it, last year", house.span(29, 1), 100 - 29);
-        Check.due("the ring is refused", house.before(0, 29), false);
-        Check.due("first year stays", house.span(0, 0), 30 + 29);
-    }
-
     private static void beforesTighten() {
         SlipHouse house = new SlipHouse();
         house.book(1500, 1510);
@@ -150,38 +131,6 @@ final class BookTests {
         span(house, 0, 10, 19);
         span(house, 1, 11, 20);
         span(house, 2, 5, 10);
-    }
-
-    private static void rings() {
-        SlipHouse house = new SlipHouse();
-        house.book(1, 2000);
-        house.book(1, 2000);
-        house.book(1, 2000);
-        house.before(0, 1);
-        house.before(1, 2);
-        Check.due("a ring leaves no year", house.before(2, 0), false);
-        span(house, 0, 1, 1998);
-        span(house, 1, 2, 1999);
-        span(house, 2, 3, 2000);
-    }
-
-    private static void mostBefores() {
-        SlipHouse house = new SlipHouse();
-        for (int b = 0; b < 12; b++) {
-            house.book(1, 2000);
-        }
-        int told = 0;
-        for (int a = 0; a < 12 && told < 60; a++) {
-            for (int b = a + 1; b < 12 && told < 60; b++) {
-                Check.due("before " + told, house.before(a, b), true);
-                told++;
-            }
-        }
-        Check.due("befores", house.count(10), 60);
-        house.book(1, 2000);
-        Check.due("one above 60", house.before(11, 12), false);
-        Check.due("befores", house.count(10), 60);
-        span(house, 12, 1, 2000);
     }
 
     private static void spans() {

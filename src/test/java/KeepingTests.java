@@ -7,18 +7,15 @@ final class KeepingTests {
 
     static void run() {
         points();
-        mostPointers();
         leads();
         leadGone();
         editions();
-        mostEditions();
         as();
         differ();
         differByNumbers();
         print();
         printPointers();
         printOrder();
-        printLong();
         octets();
         counts();
     }
@@ -63,19 +60,6 @@ final class KeepingTests {
         Check.due("loose ones", house.count(6), 0);
     }
 
-    private static void mostPointers() {
-        SlipHouse house = tree();
-        for (int p = 0; p < 20; p++) {
-            Check.due("pointer " + p, house.point(0, 1 + p % 3), p);
-        }
-        Check.due("pointer 20", house.point(1, 2), NONE);
-        Check.due("pointers", house.count(5), 20);
-        house.drop(3);
-        Check.due("every third one is loose", house.count(6), 6);
-        Check.due("one is gone", house.lead(2, NONE), true);
-        Check.due("pointer 19 again", house.point(1, 2), 19);
-    }
-
     private static void leads() {
         SlipHouse house = new SlipHouse();
         makeLoose(house);
@@ -105,17 +89,6 @@ final class KeepingTests {
         house.lead(1, 1);
         Check.due("edition 0", house.edition(), 0);
         Check.due("editions then", house.count(9), 1);
-    }
-
-    private static void mostEditions() {
-        SlipHouse house = tree();
-        for (int e = 0; e < 8; e++) {
-            Check.due("edition " + e, house.edition(), e);
-        }
-        house.put(0, NONE, NONE);
-        Check.due("edition 8", house.edition(), NONE);
-        Check.due("editions", house.count(9), 8);
-        Check.due("the last one", house.as(7, 0, 1), 1);
     }
 
     private static void as() {
@@ -225,28 +198,6 @@ final class KeepingTests {
         house.move(0, 2);
         Check.due("moved", Houses.printed(house, 0),
             "cat: 1(1500-1510,1) 1.1(1500-1510,1) 1.1.1(1500-1510,1) 1.1.1.1(1500-1510,1) 1.1.2(0)");
-    }
-
-    /** Forty senses one under the other, each with the longest brackets, and pointers to the deepest mark. */
-    private static void printLong() {
-        SlipHouse house = new SlipHouse();
-        house.book(1000, 2000);
-        Houses.entry(house, "abcdefgh", 1, 2000);
-        for (int t = 0; t < 40; t++) {
-            house.sense(0, t - 1);
-        }
-        for (int p = 0; p < 20; p++) {
-            house.point(p, 39);
-        }
-        for (int s = 0; s < 100; s++) {
-            Houses.slipIn(house, 0, 0, s < 99 ? 39 : NONE);
-        }
-        int marks = 1600;
-        int brackets = 40 * (1 + "(1000-2000,99)".length());
-        int pointers = 20 * (1 + 8 + 1 + 79);
-        Check.due("bytes", house.print(0), 9 + marks + brackets + pointers + 3);
-        Check.due("the last one", house.octet(9 + marks + brackets + pointers + 2), '1');
-        Check.due("none behind it", house.octet(9 + marks + brackets + pointers + 3), NONE);
     }
 
     private static void octets() {

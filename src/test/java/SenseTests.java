@@ -7,7 +7,6 @@ final class SenseTests {
 
     static void run() {
         senses();
-        mostSenses();
         put();
         move();
         join();
@@ -18,13 +17,11 @@ final class SenseTests {
         toldGap();
         toldOrder();
         orderAtTheLastYear();
-        toldNone();
         olderByYears();
         olderByBefores();
         flaws();
         flawsByOwnSlips();
         where();
-        deepTree();
     }
 
     /**
@@ -73,22 +70,6 @@ final class SenseTests {
         Check.due("1 has a slip", house.count(4), 5);
         Check.due("the lowest that is free", house.sense(1, 5), 3);
         Check.due("then the next one", house.sense(0, NONE), 6);
-    }
-
-    private static void mostSenses() {
-        SlipHouse house = new SlipHouse();
-        Houses.entry(house, "a", 1, 2);
-        Houses.entry(house, "b", 1, 2);
-        for (int t = 0; t < 40; t++) {
-            Check.due("sense " + t, house.sense(t % 2, NONE), t);
-        }
-        Check.due("sense 40", house.sense(0, NONE), NONE);
-        Check.due("part with 40", house.part(0), NONE);
-        Check.due("senses", house.count(4), 40);
-        Check.due("place of 39", house.told(39, 9), 20);
-        house.drop(17);
-        Check.due("17 is free", house.part(0), 17);
-        Check.due("its entry", house.told(17, 0), 0);
     }
 
     private static void put() {
@@ -256,15 +237,6 @@ final class SenseTests {
         }
     }
 
-    private static void toldNone() {
-        SlipHouse house = tree();
-        Check.due("told(0, 12)", house.told(0, 12), NONE);
-        Check.due("told(0, -1)", house.told(0, -1), NONE);
-        Check.due("told(6, 0)", house.told(6, 0), NONE);
-        Check.due("told(-1, 0)", house.told(-1, 0), NONE);
-        Check.due("told(40, 9)", house.told(40, 9), NONE);
-    }
-
     private static void olderByYears() {
         SlipHouse house = tree();
         Check.due("without witnesses", house.older(0, 3), NONE);
@@ -381,21 +353,5 @@ final class SenseTests {
         Check.due("what at the other end", house.where(2, Integer.MAX_VALUE), NONE);
         Check.due("no slip", house.where(3, 0), NONE);
         Check.due("slip -1", house.where(-1, 0), NONE);
-    }
-
-    private static void deepTree() {
-        SlipHouse house = new SlipHouse();
-        house.book(1, 2000);
-        Houses.entry(house, "a", 1, 2);
-        for (int t = 0; t < 40; t++) {
-            Check.due("sense " + t, house.sense(0, t - 1), t);
-        }
-        Houses.slipIn(house, 0, 0, 39);
-        Check.due("depth", house.told(39, 11), 40);
-        Check.due("witnesses at the top", house.told(0, 3), 1);
-        Check.due("own slips at the top", house.told(0, 2), 0);
-        Check.due("0 under 39", house.move(0, 39), false);
-        Check.due("39 into 0", house.join(39, 0), true);
-        Check.due("its slip", house.told(0, 2), 1);
     }
 }

@@ -7,8 +7,6 @@ final class WordTests {
 
     static void run() {
         slips();
-        slipsOfOtherSigns();
-        mostSlips();
         entries();
         forms();
         rules();
@@ -18,7 +16,6 @@ final class WordTests {
         noWordIsLonger();
         changesAnywhere();
         rulesToldLate();
-        fitsNone();
         sort();
         sortAgain();
     }
@@ -45,27 +42,6 @@ final class WordTests {
         Houses.feed(house, "r");
         house.slip(0, 1);
         Check.due("of 40 bytes none is left", house.count(12), 0);
-    }
-
-    private static void slipsOfOtherSigns() {
-        SlipHouse house = new SlipHouse();
-        house.book(1, 1);
-        Check.due("the tape has none", house.slip(0, 1), NONE);
-        Check.due("a` is no word", Houses.slip(house, 0, "a`"), NONE);
-        Check.due("a{ is no word", Houses.slip(house, 0, "a{"), NONE);
-        Check.due("az is a word", Houses.slip(house, 0, "az"), 0);
-    }
-
-    private static void mostSlips() {
-        SlipHouse house = new SlipHouse();
-        house.book(1, 2);
-        for (int s = 0; s < 120; s++) {
-            Check.due("slip " + s, Houses.slip(house, 0, "ab"), s);
-        }
-        Check.due("slip 120", Houses.slip(house, 0, "ab"), NONE);
-        Check.due("the tape stays", house.count(12), 20);
-        Check.due("slips", house.count(1), 120);
-        Check.due("slips of the book", house.span(0, 4), 120);
     }
 
     private static void entries() {
@@ -208,16 +184,6 @@ final class WordTests {
         Check.due("an entry told later", house.fits(0, 1), 1);
         Check.due("a slip told later", house.fits(1, 0), 1);
         Check.due("d does not lead to b", house.fits(1, 1), 0);
-    }
-
-    private static void fitsNone() {
-        SlipHouse house = small("cat");
-        Houses.slip(house, 0, "cat");
-        Check.due("fits(0, 0)", house.fits(0, 0), 1);
-        Check.due("fits(1, 0)", house.fits(1, 0), NONE);
-        Check.due("fits(0, 1)", house.fits(0, 1), NONE);
-        Check.due("fits(-1, 0)", house.fits(-1, 0), NONE);
-        Check.due("fits(0, -1)", house.fits(0, -1), NONE);
     }
 
     private static void sort() {
