@@ -4,7 +4,10 @@ public final class AllTests {
     }
 
     public static void main(String[] args) {
-        LanguageTests.run();
+        FaceTests.run();
+        SourceTests.run();
+        RoomTests.run();
+        ReadmeTests.run();
         BookTests.run();
         WordTests.run();
         SenseTests.run();
