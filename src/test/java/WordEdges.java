@@ -1,4 +1,4 @@
-/** The edges of promises 6 to 11, and of what Terms say of words, slips, entries, forms and rules. */
+/** The edges of promises 6 to 9, and of what Terms say of words, slips, entries, forms and rules. */
 final class WordEdges {
     private static final int NONE = SlipHouse.NONE;
     private static final int MIN = Integer.MIN_VALUE;
