@@ -18,6 +18,7 @@ final class FitEdges {
         leadsAnywhere();
         leadsThroughWordsOfEight();
         leadsToLettersOfRules();
+        leadsByTenRulesAtEightPlaces();
         leadsByRulesToldLater();
         fitsWithAYearTogether();
         fitsByTheSpanAsDrawn();
@@ -167,6 +168,17 @@ final class FitEdges {
         fits("aza", all("a>z"), all("zza", "azz", "zzz"), 1);
         fits("zaz", all("za>az"), all("azz"), 1);
         fits("zaz", all("za>az"), all("zza", "aaz"), 0);
+    }
+
+    /** The most changes that a word can have: each of ten rules, at each of eight letters. */
+    private static void leadsByTenRulesAtEightPlaces() {
+        String[] from = all("a>b", "a>c", "a>d", "a>e", "a>f", "a>g", "a>h", "a>i", "a>j", "a>k");
+        String[] into = all("b>a", "c>a", "d>a", "e>a", "f>a", "g>a", "h>a", "i>a", "j>a", "k>a");
+        fits("aaaaaaaa", from, all("aaaaaaaa", "kaaaaaaa", "aaaaaaab", "kaaaaaak", "baaaaaak"), 1);
+        fits("aaaaaaaa", from, all("kkaaaaak", "zaaaaaaa", "aaaaaaa"), 0);
+        fits("kaaaaaab", into, all("aaaaaaaa", "aaaaaaab", "kaaaaaaa"), 1);
+        fits("kaaaaabb", into, all("aaaaaaaa"), 0);
+        fits("zaaaaaaa", into, all("aaaaaaaa"), 0);
     }
 
     /** Rules count for slips and forms that were told ahead of them, and between them. */
